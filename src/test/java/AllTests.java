@@ -10,6 +10,8 @@ public final class AllTests {
         TakingTests.all();
         OfferTests.all();
         DayTests.all();
+        RandomRuns.all();
+        FaceTests.all(arguments[0]);
         System.out.println(Tally.passed() + " passed, " + Tally.failed() + " failed");
         if (Tally.failed() != 0) {
             System.exit(1);
