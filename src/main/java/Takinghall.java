@@ -10,7 +10,7 @@ public final class Takinghall {
     private static final int USE_COUNT = 3, PERSON_COUNT = 10;
     private static final int MOST_INTERESTS = 24, MOST_SCHEMES = 4;
     private static final int FIRST_AREA = 10, MOST_AREA = 100, MOST_CENTS = 1000;
-    private static final int ALL = 100;
+    private static final int ALL = 100; // hundredths
     private static final int LAST_UNTIL = 30000, MOST_PROFIT = 100, MOST_DEBT = 100000;
     private static final int MOST_HARM = 50, MOST_RISE = 50;
     private static final int LAST_DAY = 20000, MOST_DAYS_A_PASS = 1000;
@@ -635,7 +635,7 @@ public final class Takinghall {
     }
 
     private static int hundredths(int value, int count) {
-        return value * count / 100;
+        return value * count / ALL;
     }
 
     private Plot plotAt(int plot) {

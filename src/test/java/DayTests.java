@@ -45,12 +45,13 @@ final class DayTests {
 
     private static void promise32Creditors() {
         Story s = new Story().does(h -> h.plot(0, 50, 1), h -> h.own(0, 9, 60), h -> h.charge(0, 9, 200), h -> h.lease(0, 9, 5, 3));
-        s.does(h -> h.own(0, 0, 10), h -> h.own(1, 9, 10), h -> h.scheme(0, 0), h -> h.draw(0, 0, 100), h -> h.notice(0));
-        s.does(h -> h.notice(1), h -> h.notice(3), h -> h.pass(21), h -> h.confirm(0)).answers(0, h -> h.creditors(9));
+        s.does(h -> h.own(0, 0, 10), h -> h.own(1, 9, 2), h -> h.scheme(0, 0), h -> h.draw(0, 0, 100), h -> h.notice(0));
+        s.does(h -> h.draw(0, 1, 100), h -> h.notice(1), h -> h.notice(3), h -> h.notice(4), h -> h.pass(21), h -> h.confirm(0)).answers(0, h -> h.creditors(9));
         // Neither a LEASE that was over, nor an INTEREST of another PLOT.
         s.does(h -> h.enter(0)).answers(2, h -> h.creditors(9)).answers(1, h -> h.creditors(0)).answers(0, h -> h.creditors(1));
         s.does(h -> h.advance(0)).answers(2, h -> h.creditors(9)).does(h -> h.settle(1)).answers(1, h -> h.creditors(9));
         s.does(h -> h.settle(0)).answers(0, h -> h.creditors(9)).does(h -> h.pass(900)).answers(0, h -> h.creditors(9));
+        s.does(h -> h.enter(1)).answers(1, h -> h.creditors(9)).does(h -> h.settle(4)).answers(0, h -> h.creditors(9));
         s.answers(1, h -> h.creditors(0)).refuses(Story.INDEX, h -> h.creditors(-1)).refuses(Story.INDEX, h -> h.creditors(10));
         s.refuses(Story.INDEX, h -> h.creditors(Integer.MIN_VALUE));
     }

@@ -99,6 +99,8 @@ final class PlotTests {
         // A PRICE of TODAY counts at once; one that is NEEDED has no gain of one beside it.
         s.does(h -> h.price(0, 9), h -> h.draw(0, 8, 1)).answers(69, h -> h.market(7)).answers(63, h -> h.market(8));
         s.does(h -> h.drop(0)).answers(99, h -> h.market(7)).answers(90, h -> h.market(1));
+        s.does(h -> h.plot(9, 40, 1), h -> h.scheme(0, 0), h -> h.draw(1, 10, 1)).answers(720, h -> h.market(9));
+        s.does(h -> h.draw(1, 9, 1)).answers(560, h -> h.market(9));
         // The end of a row is not beside the beginning of the next one.
         s = new Story().does(h -> h.scheme(0, 0), h -> h.draw(0, 5, 1), h -> h.draw(0, 30, 1));
         s.answers(50, h -> h.market(6)).answers(45, h -> h.market(4)).answers(45, h -> h.market(11));

@@ -168,6 +168,8 @@ final class SchemeTests {
         s.answers(1, h -> h.whoStops(0)).does(h -> h.pass(5)).answers(1, h -> h.whoStops(0));
         s.does(h -> h.hear(1, false)).answers(-1, h -> h.whoStops(0)).changesNothingBy(h -> h.whoStops(0));
         s.refuses(Story.INDEX, h -> h.whoStops(2)).refuses(Story.INDEX, h -> h.whoStops(-1));
+        s.does(h -> h.pass(50), h -> h.charge(0, 1, 1)).answers(4, h -> h.whoStops(0)).does(h -> h.notice(4), h -> h.pass(20));
+        s.answers(4, h -> h.whoStops(0)).does(h -> h.pass(1)).answers(-1, h -> h.whoStops(0));
         // None, if it is no DRAFT, though there is one that was not notified.
         s.does(h -> h.confirm(0), h -> h.own(0, 0, 1)).answers(-1, h -> h.whoStops(0));
         s.does(h -> h.drop(0)).answers(-1, h -> h.whoStops(0));
