@@ -1,9 +1,10 @@
-/** Runs every test of the project; the first argument is the path of Takinghall.java. */
+/** Runs every test of the project; the arguments are the paths of Takinghall.java and of DOC.md. */
 public final class AllTests {
     private AllTests() {
     }
 
     public static void main(String[] arguments) throws Exception {
+        Sentences.all(arguments[1]);
         PlotTests.all();
         InterestTests.all();
         SchemeTests.all();

@@ -1,9 +1,11 @@
 import java.util.ArrayList;
 import java.util.List;
 
-/** All that can be asked of a Takinghall without changing it. */
+/** All that can be asked of a Takinghall without changing it, and calls that show what no question tells. */
 final class Questions {
     private static final List<Story.Call> ALL = new ArrayList<>();
+    private static final List<Story.Call> ON_THIS_DAY = new ArrayList<>();
+    private static final List<Story.Call> ON_LATER_DAYS = new ArrayList<>();
 
     static {
         ALL.add(h -> h.today());
@@ -21,6 +23,8 @@ final class Questions {
             ALL.add(h -> h.creditors(n));
             ALL.add(h -> h.total(n));
         }
+        nextOnThisDay();
+        nextOnLaterDays();
     }
 
     private Questions() {
@@ -54,8 +58,65 @@ final class Questions {
         ALL.add(h -> h.whoStops(scheme));
     }
 
+    /** PRICES, objections, confirmations, entries, WORKS and offers, as they would go on TODAY. */
+    private static void nextOnThisDay() {
+        for (int i = 0; i < 3; i++) {
+            int use = i;
+            ON_THIS_DAY.add(h -> h.price(use, 7));
+        }
+        for (int i = 0; i < 24; i++) {
+            int interest = i;
+            ON_THIS_DAY.add(h -> h.object(interest));
+            ON_THIS_DAY.add(h -> h.hear(interest, false));
+            ON_THIS_DAY.add(h -> h.advance(interest));
+        }
+        for (int i = 0; i < 36; i++) {
+            int plot = i;
+            ON_THIS_DAY.add(h -> h.works(plot));
+            ON_THIS_DAY.add(h -> h.enter(plot));
+        }
+        for (int i = 0; i < 4; i++) {
+            int scheme = i;
+            ON_THIS_DAY.add(h -> h.drop(scheme));
+        }
+        for (int i = 0; i < 36; i++) {
+            int plot = i;
+            ON_THIS_DAY.add(h -> h.refuse(plot));
+        }
+        ON_THIS_DAY.add(h -> h.scheme(0, 0));
+    }
+
+    /** Notices, confirmations, BLIGHT and payments, as they would go on later days. */
+    private static void nextOnLaterDays() {
+        for (int i = 0; i < 24; i++) {
+            int interest = i;
+            ON_LATER_DAYS.add(h -> h.notice(interest));
+            ON_LATER_DAYS.add(h -> h.hear(interest, false));
+        }
+        ON_LATER_DAYS.add(h -> h.pass(21));
+        for (int i = 0; i < 4; i++) {
+            int scheme = i;
+            ON_LATER_DAYS.add(h -> h.confirm(scheme));
+        }
+        for (int i = 0; i < 24; i++) {
+            int interest = i;
+            ON_LATER_DAYS.add(h -> h.blight(interest));
+            ON_LATER_DAYS.add(h -> h.settle(interest));
+        }
+        for (int i = 0; i < 36; i++) {
+            int plot = i;
+            ON_LATER_DAYS.add(h -> h.accept(plot));
+            ON_LATER_DAYS.add(h -> h.own(plot, 0, 1));
+            ON_LATER_DAYS.add(h -> h.draw(3, plot, 1));
+        }
+    }
+
     static List<Story.Call> all() {
         return ALL;
+    }
+
+    static List<List<Story.Call>> whatComesNext() {
+        return List.of(ON_THIS_DAY, ON_LATER_DAYS);
     }
 
     static String answer(Takinghall hall, Story.Call question) {

@@ -40,6 +40,7 @@ final class RandomRuns {
 
     static void all() {
         Map<String, Integer> outcomes = new TreeMap<>();
+        int failedBefore = Tally.failed();
         for (int seed = 0; seed < RUNS; seed++) {
             new RandomRuns(seed).run(seed, outcomes);
         }
@@ -47,7 +48,7 @@ final class RandomRuns {
         for (String name : NAMES) {
             Tally.check(outcomes.getOrDefault(name + " answers", 0) > 200, name + " hardly ever answered");
         }
-        if (Tally.failed() > 0) {
+        if (Tally.failed() > failedBefore) {
             outcomes.forEach((outcome, count) -> System.out.println(outcome + ": " + count));
         }
     }

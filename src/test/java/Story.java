@@ -16,57 +16,91 @@ final class Story {
     static final Class<IllegalStateException> STATE = IllegalStateException.class;
 
     private static final int CALLS_OF_AN_OBJECT = 512;
+    private static final int LONGEST_PASS = 1000;
 
     private final List<Call> calls = new ArrayList<>();
     private final Takinghall hall = new Takinghall();
+    private int told;
+    private int today;
+    // What the questions answer behind the calls; null until it is asked for.
+    private List<String> pictureOfNow;
 
-    /** Calls whose answers are looked at elsewhere, or not worth a look. */
+    /** Calls that have to answer; what, is looked at elsewhere, or not worth a look. */
     Story does(Call... some) {
         for (Call call : some) {
-            call.on(hall);
-            calls.add(call);
+            tell(call);
         }
+        return this;
+    }
+
+    /** Lets days pass until TODAY is a day. */
+    Story day(int day) {
+        while (today < day) {
+            int days = Math.min(LONGEST_PASS, day - today);
+            tell(h -> h.pass(days));
+            today += days;
+        }
+        Tally.check(hall.today() == day, "TODAY is " + hall.today() + ", due is " + day);
         return this;
     }
 
     /** A call that has to answer what is due. */
     Story answers(long due, Call call) {
-        long got;
-        try {
-            got = call.on(hall);
-        } catch (RuntimeException e) {
-            Tally.check(false, "threw " + e + ", due is " + due);
-            return this;
+        Long got = tell(call);
+        if (got != null) {
+            Tally.check(got == due, "answered " + got + ", due is " + due);
         }
-        calls.add(call);
-        Tally.check(got == due, "answered " + got + ", due is " + due);
         return this;
     }
 
     /** A call that has to throw by a throw statement of the class, and to change nothing. */
     Story refuses(Class<? extends RuntimeException> due, Call call) {
+        count();
         Class<?> thrown = thrownBy(hall, call);
         Tally.check(thrown == due, "threw " + thrown + ", due is " + due);
-        List<Call> more = new ArrayList<>(calls);
-        more.add(h -> {
-            thrownBy(h, call);
-            return 0;
-        });
-        Tally.check(picture(more).equals(picture(calls)), "a call that throws changed something");
-        return this;
+        return changesNothingBy(call);
     }
 
-    /** Several questions that have to change nothing, whatever they answer or throw. */
-    Story changesNothingBy(Call... questions) {
+    /** Questions, or calls that throw: nothing may be other behind them. */
+    Story changesNothingBy(Call... some) {
         List<Call> more = new ArrayList<>(calls);
-        for (Call question : questions) {
+        for (Call call : some) {
             more.add(h -> {
-                thrownBy(h, question);
+                thrownBy(h, call);
                 return 0;
             });
         }
-        Tally.check(picture(more).equals(picture(calls)), "a question changed something");
+        if (pictureOfNow == null) {
+            pictureOfNow = picture(calls);
+        }
+        List<String> then = picture(more);
+        for (int i = 0; i < then.size(); i++) {
+            if (!then.get(i).equals(pictureOfNow.get(i))) {
+                Tally.check(false, "a call that must not change anything made " + pictureOfNow.get(i) + " to " + then.get(i));
+                return this;
+            }
+        }
+        Tally.check(true, "");
         return this;
+    }
+
+    /** Tells a call that has to answer; null if it threw. */
+    private Long tell(Call call) {
+        count();
+        try {
+            long got = call.on(hall);
+            calls.add(call);
+            pictureOfNow = null;
+            return got;
+        } catch (RuntimeException e) {
+            Tally.check(false, "threw " + e + " where an answer is due");
+            return null;
+        }
+    }
+
+    private void count() {
+        told++;
+        Tally.check(told <= CALLS_OF_AN_OBJECT, "an object is good for 512 calls");
     }
 
     private static Class<?> thrownBy(Takinghall hall, Call call) {
@@ -78,20 +112,27 @@ final class Story {
         }
     }
 
-    /** What all questions answer behind some calls. */
+    /** What all questions answer behind some calls, and what other calls answer that would come next. */
     private static List<String> picture(List<Call> calls) {
         List<String> answers = new ArrayList<>();
         List<Call> questions = Questions.all();
-        int room = CALLS_OF_AN_OBJECT - calls.size();
+        int room = Math.max(1, CALLS_OF_AN_OBJECT - calls.size());
         for (int from = 0; from < questions.size(); from += room) {
-            Takinghall again = new Takinghall();
-            for (Call call : calls) {
-                call.on(again);
-            }
-            for (Call question : questions.subList(from, Math.min(questions.size(), from + room))) {
-                answers.add(Questions.answer(again, question));
-            }
+            tellAgain(calls, questions.subList(from, Math.min(questions.size(), from + room)), answers);
+        }
+        for (List<Call> next : Questions.whatComesNext()) {
+            tellAgain(calls, next, answers);
         }
         return answers;
+    }
+
+    private static void tellAgain(List<Call> calls, List<Call> questions, List<String> answers) {
+        Takinghall again = new Takinghall();
+        for (Call call : calls) {
+            call.on(again);
+        }
+        for (Call question : questions) {
+            answers.add(Questions.answer(again, question));
+        }
     }
 }

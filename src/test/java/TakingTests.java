@@ -29,10 +29,8 @@ final class TakingTests {
         promise26SettleRefuses();
     }
 
-    /** A PLOT 0 that a confirmed SCHEME NEEDS, behind some calls, on the day 0. */
     private static Story confirmed(int harm, int rise, int area, int use, int part) {
-        return new Story().does(h -> h.plot(0, area, use), h -> h.scheme(harm, rise), h -> h.draw(0, 0, part),
-                h -> h.confirm(0));
+        return Beginnings.confirmed(harm, rise, area, use, part);
     }
 
     private static void promise20Enter() {
