@@ -28,8 +28,8 @@ final class Beginnings {
 
     /** The PLOT 0 TAKEN on the day 0, with a CHARGE of a debt that is its SUM. */
     static Story charged(int debt) {
-        return confirmed(0, 0, 100, Takinghall.SHOP, 100).does(h -> h.price(Takinghall.SHOP, 1000), h -> h.charge(0, 3, debt),
-                h -> h.enter(0));
+        return confirmed(0, 0, 100, Takinghall.SHOP, 100).does(h -> h.price(Takinghall.SHOP, 1000),
+                h -> h.charge(0, 3, debt), h -> h.enter(0));
     }
 
     /** The PLOTS 0 and 35 TAKEN on the day 0, each with an OWNER, 0 and 1. */
@@ -44,9 +44,10 @@ final class Beginnings {
     }
 
     /**
-     * A hall in which there is something of all kinds, on the day 200. The PLOTS 0 to 2 were NEEDED by the SCHEME 0, which is
-     * DROPPED: 0 is BACK, 1 is OFFERED, 2 has WORKS. The SCHEME 1 is CONFIRMED, 3 is TAKEN for it and 4 is FREE. The SCHEME 2
-     * is a DRAFT that NEEDS 5, a HOME, and 6. A PLOT p of these has the OWNERS 2p and 2p + 1; there are 16 INTERESTS.
+     * A hall in which there is something of all kinds, on the day 200. The PLOTS 0 to 2 were NEEDED by the SCHEME 0, which
+     * is DROPPED: 0 is BACK, 1 is OFFERED, 2 has WORKS. The SCHEME 1 is CONFIRMED, 3 is TAKEN for it and 4 is FREE. The
+     * SCHEME 2 is a DRAFT that NEEDS 5, a HOME, and 6. A PLOT p of these has the OWNERS 2p and 2p + 1. There are 16
+     * INTERESTS: 13 can object still; 14, a LEASE of 7, and 15, a CHARGE of 1, were not notified.
      */
     static Story rich() {
         int[] needers = {0, 0, 0, 1, 1, 2, 2};
@@ -56,14 +57,15 @@ final class Beginnings {
             int plot = i;
             s.does(h -> h.own(plot, plot, 60), h -> h.own(plot, 9, 40), h -> h.draw(needers[plot], plot, 50));
         }
-        s.does(h -> h.lease(7, 2, 900, 3), h -> h.charge(1, 3, 20), h -> h.notice(15));
+        s.does(h -> h.lease(7, 2, 900, 3));
         for (int i = 0; i < 12; i++) {
             int interest = i;
             s.does(h -> h.notice(interest));
         }
-        s.does(h -> h.object(10), h -> h.object(11), h -> h.hear(11, false)).day(21).does(h -> h.confirm(0), h -> h.confirm(1));
-        s.does(h -> h.enter(0), h -> h.enter(1), h -> h.enter(2), h -> h.enter(3), h -> h.works(2)).day(100);
+        s.does(h -> h.object(10), h -> h.object(11), h -> h.hear(11, false)).day(21);
+        s.does(h -> h.confirm(0), h -> h.confirm(1), h -> h.charge(1, 3, 20), h -> h.enter(0), h -> h.enter(1));
+        s.does(h -> h.enter(2), h -> h.enter(3), h -> h.works(2)).day(100);
         s.does(h -> h.advance(0), h -> h.settle(1), h -> h.price(0, 8), h -> h.notice(12)).day(150);
-        return s.does(h -> h.drop(0), h -> h.accept(0), h -> h.refuse(1)).day(200);
+        return s.does(h -> h.drop(0), h -> h.accept(0), h -> h.refuse(1)).day(190).does(h -> h.notice(13)).day(200);
     }
 }

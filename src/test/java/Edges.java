@@ -11,7 +11,8 @@ final class Edges {
     }
 
     /** Each value is told to an object of its own, behind the same beginning. */
-    static void hold(Supplier<Story> beginning, int least, int greatest, Class<? extends RuntimeException> due, CallWith call) {
+    static void hold(Supplier<Story> beginning, int least, int greatest, Class<? extends RuntimeException> due,
+            CallWith call) {
         for (int allowed : new int[] {least, greatest}) {
             beginning.get().does(h -> call.on(h, allowed));
         }

@@ -56,6 +56,10 @@ final class FaceTests {
     private static final String[] CONSTANTS = {
         "NONE=-1", "FIELD=0", "HOME=1", "SHOP=2", "FREE=0", "TAKEN=1", "BACK=2", "OWNER=0", "LEASE=1", "CHARGE=2",
         "DRAFT=0", "CONFIRMED=1", "DROPPED=2"};
+    private static final String[] HEADINGS_AND_FIRST_CALLS = {
+        "---- PLOTS", " plot(", " plotOf(", "---- INTERESTS", " own(", " interestOf(", "---- SCHEMES", " scheme(", " schemeOf(",
+        "---- taking, paying", " enter(", " settle(", "---- OFFERED", " refuse(", " accept(", "---- days, sums", " pass(",
+        " creditors("};
     private static final int MOST_LINES = 60, MOST_CLASSES = 12, MOST_FIELDS = 20, MOST_PARAMETERS = 7;
 
     private FaceTests() {
@@ -66,6 +70,7 @@ final class FaceTests {
         constantsAreThoseOfTheDocument();
         nothingElseIsSeen();
         classesInsideAreSmall();
+        headingsStandAheadOfTheirCalls(Files.readString(Path.of(source)));
         String text = withoutComments(Files.readString(Path.of(source)));
         sourceKeepsToTheLanguage(text);
         methodsAreShort(text);
@@ -148,6 +153,15 @@ final class FaceTests {
             for (Constructor<?> constructor : c.getDeclaredConstructors()) {
                 Tally.check(constructor.getParameterCount() <= MOST_PARAMETERS, constructor + " takes too much");
             }
+        }
+    }
+
+    private static void headingsStandAheadOfTheirCalls(String source) {
+        int from = 0;
+        for (String words : HEADINGS_AND_FIRST_CALLS) {
+            int at = source.indexOf(words, from);
+            Tally.check(at >= 0, "not in its place: " + words);
+            from = Math.max(from, at);
         }
     }
 

@@ -14,9 +14,11 @@ final class InterestSentences {
 
     /** The PLOTS 0 (TAKEN), 1 (BACK) and 2 (TAKEN, and its SCHEME DROPPED) take no INTEREST more. */
     private static Story notFree() {
-        return new Story().does(h -> h.scheme(0, 0), h -> h.scheme(0, 0), h -> h.draw(0, 0, 1), h -> h.draw(1, 1, 1),
-                h -> h.draw(1, 2, 1), h -> h.confirm(0), h -> h.confirm(1), h -> h.own(1, 0, 1), h -> h.own(2, 0, 1), h -> h.enter(0),
-                h -> h.enter(1), h -> h.enter(2), h -> h.drop(1), h -> h.accept(1));
+        return new Story()
+                .does(h -> h.scheme(0, 0), h -> h.scheme(0, 0), h -> h.draw(0, 0, 1), h -> h.draw(1, 1, 1),
+                        h -> h.draw(1, 2, 1), h -> h.confirm(0), h -> h.confirm(1), h -> h.own(1, 0, 1),
+                        h -> h.own(2, 0, 1), h -> h.enter(0), h -> h.enter(1), h -> h.enter(2), h -> h.drop(1),
+                        h -> h.accept(1));
     }
 
     private static void onlyOfFreePlots(Edges.CallWith tell) {
@@ -30,7 +32,8 @@ final class InterestSentences {
 
     private static void atMostTwentyFour(Edges.CallWith tell) {
         new Story().answers(0, h -> tell.on(h, 35));
-        told(23).answers(23, h -> tell.on(h, 35)).refuses(Story.STATE, h -> tell.on(h, 35)).refuses(Story.STATE, h -> tell.on(h, 0));
+        told(23).answers(23, h -> tell.on(h, 35)).refuses(Story.STATE, h -> tell.on(h, 35))
+                .refuses(Story.STATE, h -> tell.on(h, 0));
     }
 
     @Sentence(of = "INTERESTS", words = "INTERESTS are numbered from 0, at most 24")
@@ -42,7 +45,8 @@ final class InterestSentences {
             s.answers(3 * plot + 2, h -> h.charge(plot, 2, 1)).refuses(Story.INDEX, h -> h.interestOf(3 * plot + 3, 1));
         }
         s.refuses(Story.STATE, h -> h.own(35, 0, 1)).refuses(Story.STATE, h -> h.lease(35, 0, 1, 1));
-        s.refuses(Story.STATE, h -> h.charge(35, 0, 1)).answers(7, h -> h.interestOf(23, 1)).answers(0, h -> h.interestOf(0, 1));
+        s.refuses(Story.STATE, h -> h.charge(35, 0, 1)).answers(7, h -> h.interestOf(23, 1));
+        s.answers(0, h -> h.interestOf(0, 1));
         // Those of land that is BACK keep their numbers.
         s = told(22).does(h -> h.own(1, 0, 1), h -> h.scheme(0, 0), h -> h.draw(0, 1, 1), h -> h.notice(22)).day(21);
         s.does(h -> h.confirm(0), h -> h.enter(1), h -> h.drop(0), h -> h.accept(1)).answers(23, h -> h.own(2, 0, 1));
@@ -57,18 +61,21 @@ final class InterestSentences {
         s.answers(0, h -> h.interestOf(0, 3)).answers(0, h -> h.interestOf(1, 3)).answers(20000, h -> h.interestOf(2, 3));
     }
 
-    @Sentence(of = "INTERESTS", words = "an OWNER with a share in hundredths, a LEASE until a day, with a profit for each day, or a CHARGE of a debt")
+    @Sentence(of = "INTERESTS",
+            words = "an OWNER with a share in hundredths, a LEASE until a day, with a profit for each day, or a CHARGE of a debt")
     static void ownersLeasesAndCharges() {
-        Story s = Beginnings.confirmed(0, 0, 20, 0, 100).does(h -> h.charge(0, 0, 40), h -> h.lease(0, 0, 2, 9), h -> h.own(0, 0, 50));
-        s.answers(2, h -> h.interestOf(0, 0)).answers(1, h -> h.interestOf(1, 0)).answers(0, h -> h.interestOf(2, 0));
-        s.answers(40, h -> h.interestOf(0, 4)).answers(2, h -> h.interestOf(1, 4)).answers(50, h -> h.interestOf(2, 4));
-        s.does(h -> h.enter(0)).answers(40, h -> h.owed(0)).answers(18, h -> h.owed(1)).answers(30, h -> h.owed(2));
+        Story s = Beginnings.confirmed(0, 0, 20, 0, 100);
+        s.does(h -> h.charge(0, 0, 40), h -> h.lease(0, 0, 2, 9), h -> h.own(0, 0, 50)).answers(2, h -> h.interestOf(0, 0));
+        s.answers(1, h -> h.interestOf(1, 0)).answers(0, h -> h.interestOf(2, 0)).answers(40, h -> h.interestOf(0, 4));
+        s.answers(2, h -> h.interestOf(1, 4)).answers(50, h -> h.interestOf(2, 4)).does(h -> h.enter(0));
+        s.answers(40, h -> h.owed(0)).answers(18, h -> h.owed(1)).answers(30, h -> h.owed(2));
     }
 
     @Sentence(of = "INTERESTS", words = "The shares of all OWNERS that were told of one PLOT are at most 100, together")
     static void sharesTogether() {
-        Story s = new Story().does(h -> h.own(0, 0, 99)).refuses(Story.ARGUMENT, h -> h.own(0, 1, 2)).answers(1, h -> h.own(0, 1, 1));
-        s.refuses(Story.ARGUMENT, h -> h.own(0, 1, 1)).answers(2, h -> h.own(1, 1, 100)).refuses(Story.ARGUMENT, h -> h.own(1, 1, 1));
+        Story s = new Story().does(h -> h.own(0, 0, 99)).refuses(Story.ARGUMENT, h -> h.own(0, 1, 2));
+        s.answers(1, h -> h.own(0, 1, 1)).refuses(Story.ARGUMENT, h -> h.own(0, 1, 1)).answers(2, h -> h.own(1, 1, 100));
+        s.refuses(Story.ARGUMENT, h -> h.own(1, 1, 1));
         // A LEASE and a CHARGE have no share, whatever their day and their debt.
         new Story().does(h -> h.lease(0, 0, 60, 1), h -> h.charge(0, 0, 60)).answers(2, h -> h.own(0, 0, 100));
         s = new Story();
@@ -77,8 +84,10 @@ final class InterestSentences {
             s.answers(number, h -> h.own(0, 0, 4));
         }
         s.refuses(Story.ARGUMENT, h -> h.own(0, 0, 9)).answers(23, h -> h.own(0, 0, 8));
-        // What was told before the PLOT was drawn and let go counts as well.
-        s = Beginnings.notified().does(h -> h.drop(0)).refuses(Story.ARGUMENT, h -> h.own(0, 0, 51)).answers(3, h -> h.own(0, 0, 50));
+        // What was told and notified counts, and what was told before the PLOT was drawn and let go.
+        Beginnings.notified().refuses(Story.ARGUMENT, h -> h.own(0, 0, 51)).answers(3, h -> h.own(0, 0, 50));
+        s = Beginnings.notified().does(h -> h.drop(0)).refuses(Story.ARGUMENT, h -> h.own(0, 0, 51));
+        s.answers(3, h -> h.own(0, 0, 50));
     }
 
     @Sentence(of = "INTERESTS", words = "what is lacking is that of those who are not found")
@@ -113,7 +122,8 @@ final class InterestSentences {
     static void ownOfAShare() {
         Edges.hold(Story::new, 1, 100, Story.ARGUMENT, (h, share) -> h.own(0, 0, share));
         Edges.hold(() -> new Story().does(h -> h.own(0, 0, 60)), 1, 40, Story.ARGUMENT, (h, share) -> h.own(0, 0, share));
-        Edges.refuse(() -> new Story().does(h -> h.own(0, 0, 100)), Story.ARGUMENT, (h, share) -> h.own(0, 0, share), 0, 1, 100);
+        Edges.refuse(() -> new Story().does(h -> h.own(0, 0, 100)), Story.ARGUMENT, (h, share) -> h.own(0, 0, share), 0, 1,
+                100);
     }
 
     @Sentence(of = "Promise 7", words = {"Tells an OWNER.", "@return the number of the INTEREST",
@@ -131,7 +141,8 @@ final class InterestSentences {
         Edges.hold(Story::new, 0, 9, Story.INDEX, (h, person) -> h.lease(0, person, 1, 1));
     }
 
-    @Sentence(of = "Promise 8", words = {"@param until a day, above TODAY, 30000 at most", "@throws IllegalArgumentException if until"})
+    @Sentence(of = "Promise 8",
+            words = {"@param until a day, above TODAY, 30000 at most", "@throws IllegalArgumentException if until"})
     static void leaseUntilADay() {
         Edges.hold(Story::new, 1, 30000, Story.ARGUMENT, (h, until) -> h.lease(0, 0, until, 1));
         Edges.hold(() -> new Story().day(50), 51, 30000, Story.ARGUMENT, (h, until) -> h.lease(0, 0, until, 1));
@@ -160,7 +171,8 @@ final class InterestSentences {
         Edges.hold(Story::new, 0, 9, Story.INDEX, (h, person) -> h.charge(0, person, 1));
     }
 
-    @Sentence(of = "Promise 9", words = {"@param debt 1 to 100000", "@throws IllegalArgumentException if debt is out of its range"})
+    @Sentence(of = "Promise 9",
+            words = {"@param debt 1 to 100000", "@throws IllegalArgumentException if debt is out of its range"})
     static void chargeOfADebt() {
         Edges.hold(Story::new, 1, 100000, Story.ARGUMENT, (h, debt) -> h.charge(0, 0, debt));
         new Story().does(h -> h.charge(0, 0, 1), h -> h.charge(0, 0, 100000)).answers(1, h -> h.interestOf(0, 4))
@@ -175,7 +187,8 @@ final class InterestSentences {
         new Story().does(h -> h.charge(0, 0, 1)).answers(Takinghall.CHARGE, h -> h.interestOf(0, 0));
     }
 
-    @Sentence(of = "Promise 10", words = {"@param interest its number", "@throws IndexOutOfBoundsException if there is no such INTEREST"})
+    @Sentence(of = "Promise 10",
+            words = {"@param interest its number", "@throws IndexOutOfBoundsException if there is no such INTEREST"})
     static void interestOfTheInterests() {
         for (int i = 0; i < 9; i++) {
             int what = i;
@@ -185,7 +198,8 @@ final class InterestSentences {
         }
     }
 
-    @Sentence(of = "Promise 10", words = {"Tells of an INTEREST.", "@throws IllegalArgumentException if what is out of its range"})
+    @Sentence(of = "Promise 10",
+            words = {"Tells of an INTEREST.", "@throws IllegalArgumentException if what is out of its range"})
     static void interestOfOfWhat() {
         Edges.hold(Beginnings::drawn, 0, 8, Story.ARGUMENT, (h, what) -> h.interestOf(0, what));
         Edges.hold(Beginnings::offered, 0, 8, Story.ARGUMENT, (h, what) -> h.interestOf(1, what));
@@ -202,19 +216,21 @@ final class InterestSentences {
 
     @Sentence(of = "Promise 10", words = "4 the share, the day until which it is, or the debt")
     static void interestOfShareUntilAndDebt() {
-        Story s = new Story().does(h -> h.own(0, 0, 1), h -> h.own(1, 0, 100), h -> h.lease(0, 0, 1, 99), h -> h.lease(0, 0, 30000, 99));
-        s.does(h -> h.charge(0, 0, 1), h -> h.charge(0, 0, 100000)).answers(1, h -> h.interestOf(0, 4)).answers(100, h -> h.interestOf(1, 4));
-        s.answers(1, h -> h.interestOf(2, 4)).answers(30000, h -> h.interestOf(3, 4)).answers(1, h -> h.interestOf(4, 4));
-        s.answers(100000, h -> h.interestOf(5, 4));
+        Story s = new Story();
+        s.does(h -> h.own(0, 0, 1), h -> h.own(1, 0, 100), h -> h.lease(0, 0, 1, 99), h -> h.lease(0, 0, 30000, 99));
+        s.does(h -> h.charge(0, 0, 1), h -> h.charge(0, 0, 100000)).answers(1, h -> h.interestOf(0, 4));
+        s.answers(100, h -> h.interestOf(1, 4)).answers(1, h -> h.interestOf(2, 4)).answers(30000, h -> h.interestOf(3, 4));
+        s.answers(1, h -> h.interestOf(4, 4)).answers(100000, h -> h.interestOf(5, 4));
     }
 
     @Sentence(of = "Promise 10", words = "5 the day of its notice, or NONE, 6 whether it has an OPEN objection, 1 or 0")
     static void interestOfNoticeAndObjection() {
-        Story s = Beginnings.drawn().answers(-1, h -> h.interestOf(0, 5)).answers(0, h -> h.interestOf(0, 6)).does(h -> h.notice(0));
-        s.answers(0, h -> h.interestOf(0, 5)).answers(0, h -> h.interestOf(0, 6)).day(1).does(h -> h.object(0));
-        s.answers(0, h -> h.interestOf(0, 5)).answers(1, h -> h.interestOf(0, 6)).answers(0, h -> h.interestOf(1, 6));
-        s.does(h -> h.hear(0, false)).answers(0, h -> h.interestOf(0, 5)).answers(0, h -> h.interestOf(0, 6)).day(20000);
-        s.does(h -> h.notice(1)).answers(20000, h -> h.interestOf(1, 5)).answers(-1, h -> h.interestOf(2, 5));
+        Story s = Beginnings.drawn().answers(-1, h -> h.interestOf(0, 5)).answers(0, h -> h.interestOf(0, 6));
+        s.does(h -> h.notice(0)).answers(0, h -> h.interestOf(0, 5)).answers(0, h -> h.interestOf(0, 6)).day(1);
+        s.does(h -> h.object(0)).answers(0, h -> h.interestOf(0, 5)).answers(1, h -> h.interestOf(0, 6));
+        s.answers(0, h -> h.interestOf(1, 6)).does(h -> h.hear(0, false)).answers(0, h -> h.interestOf(0, 5));
+        s.answers(0, h -> h.interestOf(0, 6)).day(20000).does(h -> h.notice(1)).answers(20000, h -> h.interestOf(1, 5));
+        s.answers(-1, h -> h.interestOf(2, 5));
     }
 
     @Sentence(of = "Promise 10", words = {"7 its SUM, 0 without, 8 what was paid to it, gain with it", "@return as told"})
@@ -222,8 +238,9 @@ final class InterestSentences {
         Story s = Beginnings.confirmed(0, 0, 100, 2, 100).does(h -> h.charge(0, 0, 1000), h -> h.charge(0, 0, 100));
         s.answers(0, h -> h.interestOf(0, 7)).answers(0, h -> h.interestOf(0, 8)).does(h -> h.enter(0));
         s.answers(1000, h -> h.interestOf(0, 7)).answers(0, h -> h.interestOf(0, 8)).does(h -> h.advance(0)).day(365);
-        s.answers(1000, h -> h.interestOf(0, 7)).answers(900, h -> h.interestOf(0, 8)).does(h -> h.settle(0), h -> h.settle(1));
-        s.answers(1000, h -> h.interestOf(0, 7)).answers(1003, h -> h.interestOf(0, 8)).answers(103, h -> h.interestOf(1, 8));
-        s.day(9000).answers(1003, h -> h.interestOf(0, 8));
+        s.answers(1000, h -> h.interestOf(0, 7)).answers(900, h -> h.interestOf(0, 8));
+        s.does(h -> h.settle(0), h -> h.settle(1)).answers(1000, h -> h.interestOf(0, 7));
+        s.answers(1003, h -> h.interestOf(0, 8)).answers(103, h -> h.interestOf(1, 8)).day(9000);
+        s.answers(1003, h -> h.interestOf(0, 8));
     }
 }

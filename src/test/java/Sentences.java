@@ -43,8 +43,8 @@ final class Sentences {
             Tally.check(false, method + " threw " + e.getCause());
         }
         if (Tally.failed() > before) {
-            System.out.println("BROKEN: " + method.getDeclaringClass().getName() + "." + method.getName() + ", " + sentence.of()
-                    + ": " + String.join(" / ", sentence.words()));
+            System.out.println("BROKEN: " + method.getDeclaringClass().getName() + "." + method.getName() + ", "
+                    + sentence.of() + ": " + String.join(" / ", sentence.words()));
         }
     }
 }

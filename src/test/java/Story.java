@@ -76,7 +76,7 @@ final class Story {
         List<String> then = picture(more);
         for (int i = 0; i < then.size(); i++) {
             if (!then.get(i).equals(pictureOfNow.get(i))) {
-                Tally.check(false, "a call that must not change anything made " + pictureOfNow.get(i) + " to " + then.get(i));
+                Tally.check(false, "what must change nothing made " + pictureOfNow.get(i) + " to " + then.get(i));
                 return this;
             }
         }
