@@ -1,4 +1,6 @@
-/** Runs every test of the project; the arguments are the paths of Takinghall.java and of DOC.md. */
+import java.nio.file.Path;
+
+/** Runs every test of the project; the arguments are the paths of Takinghall.java, DOC.md and README.md. */
 public final class AllTests {
     private AllTests() {
     }
@@ -12,7 +14,9 @@ public final class AllTests {
         OfferTests.all();
         DayTests.all();
         RandomRuns.all();
-        FaceTests.all(arguments[0]);
+        DocumentedFace face = new DocumentedFace(Path.of(arguments[1]));
+        FaceTests.all(arguments[0], face);
+        ReadmeTests.all(arguments[2], face);
         System.out.println(Tally.passed() + " passed, " + Tally.failed() + " failed");
         if (Tally.failed() != 0) {
             System.exit(1);

@@ -9,7 +9,7 @@ import java.util.Map;
 
 /** DOC.md by its headings, and what of it the tests have quoted. */
 final class Document {
-    /** How the interface is laid out, and a list of what other sentences say. */
+    /** How the interface is headed, which FaceTests looks at, and a list of what other sentences say. */
     private static final List<String> WITHOUT_TEST = List.of("Ahead of the calls", "---- ",
             "PLOTS with prices that change by days, INTERESTS in them");
 
@@ -26,7 +26,7 @@ final class Document {
                 section.append(line).append('\n');
             }
         }
-        sections.keySet().removeAll(List.of("Takinghall", "What it is", "The public face", "Not promised"));
+        sections.keySet().removeAll(List.of("Takinghall", "The public face", "Not promised"));
         sections.keySet().forEach(heading -> quoted.put(heading, new BitSet()));
     }
 

@@ -17,67 +17,44 @@ import java.util.stream.Collectors;
 
 /** The face of the document, and those rules of the language that are easily seen. */
 final class FaceTests {
-    private static final String INDEX = "IndexOutOfBoundsException";
-    private static final String ARGUMENT = "IllegalArgumentException";
-    private static final String STATE = "IllegalStateException";
-    private static final String[] FACE = {
-        "int plot(int,int,int)" + thrown(INDEX, ARGUMENT, STATE),
-        "int price(int,int)" + thrown(ARGUMENT),
-        "int worth(int,int)" + thrown(INDEX, ARGUMENT),
-        "int market(int)" + thrown(INDEX),
-        "int plotOf(int,int)" + thrown(INDEX, ARGUMENT),
-        "int own(int,int,int)" + thrown(INDEX, ARGUMENT, STATE),
-        "int lease(int,int,int,int)" + thrown(INDEX, ARGUMENT, STATE),
-        "int charge(int,int,int)" + thrown(INDEX, ARGUMENT, STATE),
-        "long interestOf(int,int)" + thrown(INDEX, ARGUMENT),
-        "int scheme(int,int)" + thrown(ARGUMENT, STATE),
-        "int draw(int,int,int)" + thrown(INDEX, ARGUMENT, STATE),
-        "int notice(int)" + thrown(INDEX, STATE),
-        "int object(int)" + thrown(INDEX, STATE),
-        "int hear(int,boolean)" + thrown(INDEX, STATE),
-        "int confirm(int)" + thrown(INDEX, STATE),
-        "int whoStops(int)" + thrown(INDEX),
-        "int drop(int)" + thrown(INDEX, STATE),
-        "int schemeOf(int,int)" + thrown(INDEX, ARGUMENT),
-        "int enter(int)" + thrown(INDEX, STATE),
-        "int blight(int)" + thrown(INDEX, ARGUMENT, STATE),
-        "int works(int)" + thrown(INDEX, STATE),
-        "long sumAnew(int)" + thrown(INDEX),
-        "long owed(int)" + thrown(INDEX),
-        "long advance(int)" + thrown(INDEX, STATE),
-        "long settle(int)" + thrown(INDEX, STATE),
-        "int refuse(int)" + thrown(INDEX, STATE),
-        "int accept(int)" + thrown(INDEX, STATE),
-        "int pass(int)" + thrown(ARGUMENT, STATE),
-        "int today()",
-        "long total(int)" + thrown(ARGUMENT),
-        "int creditors(int)" + thrown(INDEX),
-    };
-    private static final String[] CONSTANTS = {
-        "NONE=-1", "FIELD=0", "HOME=1", "SHOP=2", "FREE=0", "TAKEN=1", "BACK=2", "OWNER=0", "LEASE=1", "CHARGE=2",
-        "DRAFT=0", "CONFIRMED=1", "DROPPED=2"};
-    private static final String[] HEADINGS_AND_FIRST_CALLS = {
-        "---- PLOTS", " plot(", " plotOf(", "---- INTERESTS", " own(", " interestOf(", "---- SCHEMES", " scheme(", " schemeOf(",
-        "---- taking, paying", " enter(", " settle(", "---- OFFERED", " refuse(", " accept(", "---- days, sums", " pass(",
-        " creditors("};
     private static final int MOST_LINES = 60, MOST_CLASSES = 12, MOST_FIELDS = 20, MOST_PARAMETERS = 7;
 
     private FaceTests() {
     }
 
-    static void all(String source) throws IOException, IllegalAccessException {
-        methodsAreThoseOfTheDocument();
-        constantsAreThoseOfTheDocument();
+    static void all(String path, DocumentedFace face) throws IOException, IllegalAccessException {
+        theFaceIsReadAsItIsWritten(face);
+        methodsAreThoseOfTheDocument(face);
+        constantsAreThoseOfTheDocument(face);
         nothingElseIsSeen();
         classesInsideAreSmall();
-        headingsStandAheadOfTheirCalls(Files.readString(Path.of(source)));
-        String text = withoutComments(Files.readString(Path.of(source)));
+        String source = Files.readString(Path.of(path));
+        headingsStandAheadOfTheirCalls(source, face);
+        String text = withoutComments(source);
+        theClassIsAsTheDocumentSays(source, text);
         sourceKeepsToTheLanguage(text);
         methodsAreShort(text);
     }
 
-    private static String thrown(String... names) {
-        return " throws " + String.join(",", names);
+    /** So that no other test holds because nothing was found in the document. */
+    private static void theFaceIsReadAsItIsWritten(DocumentedFace face) {
+        Tally.check(face.constants.size() == 13, "the constants were read as " + face.constants);
+        Tally.check(face.calls.size() == 31, "the calls were read as " + face.calls);
+        Tally.check(face.headings.size() == 6, "the headings were read as " + face.headings);
+        List<String> all = face.calls.stream().map(DocumentedFace.Call::name).toList();
+        List<String> underHeadings = face.headings.values().stream().flatMap(List::stream).toList();
+        Tally.check(all.equals(underHeadings), "the headings were read as " + face.headings);
+    }
+
+    private static void theClassIsAsTheDocumentSays(String source, String text) {
+        Class<?> c = Takinghall.class;
+        Tally.check(source.startsWith("/** A hall that takes land for what all need. */\npublic final class Takinghall {"),
+                "the class begins otherwise");
+        Tally.check(text.split("\\bclass Takinghall\\b", -1).length == 2, "there are several classes Takinghall");
+        Tally.check(Modifier.isPublic(c.getModifiers()) && Modifier.isFinal(c.getModifiers()), "it is not public and final");
+        Tally.check(c.getPackageName().isEmpty(), "it has a package");
+        Tally.check(c.getSuperclass() == Object.class && c.getInterfaces().length == 0 && c.getTypeParameters().length == 0,
+                "it is more than the document says");
     }
 
     private static String signature(Method method) {
@@ -87,7 +64,7 @@ final class FaceTests {
                 + (exceptions.isEmpty() ? "" : " throws " + exceptions);
     }
 
-    private static void methodsAreThoseOfTheDocument() {
+    private static void methodsAreThoseOfTheDocument(DocumentedFace face) {
         Set<String> got = new TreeSet<>();
         for (Method method : Takinghall.class.getDeclaredMethods()) {
             if (Modifier.isPublic(method.getModifiers())) {
@@ -95,23 +72,24 @@ final class FaceTests {
                 got.add(signature(method));
             }
         }
-        Set<String> due = new TreeSet<>(List.of(FACE));
-        Tally.check(got.equals(due), "the face is " + got);
-        Tally.check(Modifier.isFinal(Takinghall.class.getModifiers()), "the class is not final");
+        Set<String> due = new TreeSet<>();
+        face.calls.forEach(call -> due.add(call.signature()));
+        Tally.check(got.equals(due), "the face is " + got + ", due is " + due);
         Constructor<?>[] constructors = Takinghall.class.getDeclaredConstructors();
         Tally.check(constructors.length == 1 && Modifier.isPublic(constructors[0].getModifiers())
-                && constructors[0].getParameterCount() == 0, "the constructor is not that of the document");
+                && constructors[0].getParameterCount() == 0 && constructors[0].getExceptionTypes().length == 0, "the constructor is not that of the document");
     }
 
-    private static void constantsAreThoseOfTheDocument() throws IllegalAccessException {
+    private static void constantsAreThoseOfTheDocument(DocumentedFace face) throws IllegalAccessException {
         Set<String> got = new TreeSet<>();
         for (Field field : Takinghall.class.getDeclaredFields()) {
             if (Modifier.isPublic(field.getModifiers())) {
-                Tally.check(Modifier.isStatic(field.getModifiers()) && Modifier.isFinal(field.getModifiers()), field + "");
+                boolean isConstant = Modifier.isStatic(field.getModifiers()) && Modifier.isFinal(field.getModifiers());
+                Tally.check(isConstant && field.getType() == int.class, field + " is no constant of int");
                 got.add(field.getName() + "=" + field.getInt(null));
             }
         }
-        Tally.check(got.equals(new TreeSet<>(List.of(CONSTANTS))), "the constants are " + got);
+        Tally.check(got.equals(face.constants), "the constants are " + got + ", due is " + face.constants);
     }
 
     private static void nothingElseIsSeen() {
@@ -156,13 +134,22 @@ final class FaceTests {
         }
     }
 
-    private static void headingsStandAheadOfTheirCalls(String source) {
-        int from = 0;
-        for (String words : HEADINGS_AND_FIRST_CALLS) {
-            int at = source.indexOf(words, from);
-            Tally.check(at >= 0, "not in its place: " + words);
-            from = Math.max(from, at);
+    /** Under each heading stand the calls that the document tells there, in its order, and no others. */
+    private static void headingsStandAheadOfTheirCalls(String source, DocumentedFace face) {
+        List<String> got = new ArrayList<>();
+        Matcher matcher = Pattern.compile("// (---- .+)|    public \\w+ (\\w+)\\(").matcher(source);
+        while (matcher.find()) {
+            String heading = matcher.group(1);
+            if (heading == null || face.headings.containsKey(heading)) {
+                got.add(heading == null ? matcher.group(2) : heading);
+            }
         }
+        List<String> due = new ArrayList<>();
+        face.headings.forEach((heading, calls) -> {
+            due.add(heading);
+            due.addAll(calls);
+        });
+        Tally.check(got.equals(due), "the calls stand as " + got + ", due is " + due);
     }
 
     private static String withoutComments(String source) {

@@ -1,4 +1,4 @@
-/** The sentences of "Terms" that hold for all calls. */
+/** The sentences of "What it is", and those of "Terms" that hold for all calls. */
 final class TermSentences {
     private static final int MIN = Integer.MIN_VALUE, MAX = Integer.MAX_VALUE;
 
@@ -22,6 +22,27 @@ final class TermSentences {
         for (Story.Call call : calls) {
             s.refuses(due, call);
         }
+    }
+
+    @Sentence(of = "What it is", words = {"A hall that takes land for what all need:",
+        "An object is used for at most 512 calls after it has been made; what later calls answer is free."})
+    static void goodFor512Calls() {
+        Story s = new Story();
+        s.does(h -> h.plot(0, 1, 0), h -> h.own(0, 0, 100), h -> h.scheme(0, 0), h -> h.draw(0, 0, 100), h -> h.notice(0));
+        s.does(h -> h.pass(21), h -> h.confirm(0));
+        // 250 PRICES on as many days, and the last of 512 calls is paid by them.
+        for (int i = 0; i < 250; i++) {
+            int cents = i;
+            s.answers(cents == 0 ? 5 : cents - 1, h -> h.price(0, cents)).answers(22 + cents, h -> h.pass(1));
+        }
+        s.answers(249, h -> h.enter(0)).answers(5, h -> h.worth(0, 20)).answers(0, h -> h.worth(0, 21));
+        s.answers(124, h -> h.worth(0, 145)).answers(249, h -> h.settle(0));
+        // Calls that throw are calls, too.
+        Takinghall hall = new Takinghall();
+        for (int i = 0; i < 511; i++) {
+            Tally.check(Questions.answer(hall, h -> h.price(0, 1001)).equals(Story.ARGUMENT.getName()), "a price of 1001");
+        }
+        Tally.check(hall.price(0, 1000) == 5, "the 512th call");
     }
 
     @Sentence(of = "Terms",
